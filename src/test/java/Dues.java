@@ -10,13 +10,12 @@ final class Dues {
     System.out.println(call + " answered " + got + ", due is " + want);
   }
 
-  /** A call that is refused: its answer, and that it counts once among the REFUSALS told by status(kind) and alone. */
+  /** A call that is refused: its answer, and that it counts among the REFUSALS of its number. */
   void refused(WhatDidYouSay x, String call, java.util.function.IntSupplier it, int want) {
-    int which = want < -10 ? -want - 10 : -want;
-    int[] before = new int[8];
-    for (int i = 1; i <= 7; i++) before[i] = x.status(10 + i);
+    int which = 10 + (want < -10 ? -want - 10 : -want);
+    int before = x.status(which);
     due(call, it.getAsInt(), want);
-    for (int i = 1; i <= 7; i++) due(call + " then status(" + (10 + i) + ")", x.status(10 + i), before[i] + (i == which ? 1 : 0));
+    due(call + " then status(" + which + ")", x.status(which), before + 1);
   }
 
   void end() {
