@@ -578,12 +578,13 @@ public final class WhatDidYouSay {
 
     /** Where a break leaves it that stands at a number and, with this break, has heard so many. */
     int leftAt(int number, int heardThen, int apart) {
-      int mark = number - leftOver(number, apart);
-      boolean listens = leftOver(heardThen, a + 1) == 0;
+      if (apart < 1 || a < 0) return number;
+      int mark = number - number % apart;
+      boolean listens = heardThen % (a + 1) == 0;
       switch (kind) {
         case MARKER: return mark;
         case SLIPPER: return number;
-        case HEAPER: return number - leftOver(number, a + 2);
+        case HEAPER: return number - number % (a + 2);
         case STUBBORN: return listens ? 0 : number;
         case LOUD: return number - mark <= a ? number : mark;
         case DEAF: return listens ? number / 2 : number;

@@ -47,6 +47,7 @@ public final class ActsTest {
     act(3, 3, 2, 10, 78 ^ 9, 12, 40, 30, 11, 10, 10);
     act(4, 3, 2, 10, -(20 ^ 7), 50, 12, 11, 51, 10, 51, 10);
     act(5, 3, 2, 10, 30 ^ 12 ^ 5, 60, 12, 11, 20, 10, 20, 10);
+    act(5, 3, 2, 11, 32 ^ 13 ^ 5, 60, 12, 11, 20, 10, 20, 10);
     act(6, 3, 2, 10, -(28 ^ 14), 50, 12, 71, 11, 70, 51, 10, 70, 51, 10);
   }
 
@@ -126,7 +127,9 @@ public final class ActsTest {
     x.show(0, 0);
     Dues.row(x, 2, 2, 5, 6);
     dues.due("image", x.image(), 1);
-    x.counter(1, 0);
+    x.counter(2, 7);
+    x.knits(1, 9);
+    x.asks(1);
     x.show(1, 1);
     x.show(3, 0);
     x.show(0, 1);
@@ -135,9 +138,11 @@ public final class ActsTest {
     for (int s = 0; s < 4; s++) dues.due("holds(" + s + ")", x.holds(s), want[s]);
     dues.due("the ROW stays", x.element(2, 1), 6);
     dues.refused(x, "NOTHING there", () -> x.says(0, 0), -3);
-    x.counter(3, 0);
+    x.counter(3, 4);
     x.show(1, 1);
     dues.due("another of that number", x.says(1, 3), 0);
+    int[] another = {3, 4, 0, 0, 0};
+    for (int what = 0; what < 5; what++) dues.due("another: counterOf " + what, x.counterOf(1, what), another[what]);
   }
 
   private static void status() {

@@ -145,7 +145,30 @@ public final class PlainTest {
     for (int i = 0; i < 300; i++) whens(1 + random.nextInt(60));
     for (int i = 0; i < 300; i++) runs(1 + random.nextInt(40));
     for (int i = 0; i < 30; i++) runs(150 + random.nextInt(51));
+    for (int i = 0; i < 2000; i++) told(2 + random.nextInt(30));
     dues.end();
+  }
+
+  /** An evening as it may have been, or with a number another. */
+  private static void told(int n) {
+    WhatDidYouSay x = room(n);
+    Plain one = add(x, random.nextInt(7), n);
+    int many = random.nextInt(41);
+    x.row(0, 2, many);
+    Stand s = one.stand;
+    int wrong = -1;
+    for (int i = 0; i < many; i++) {
+      boolean isBreak = random.nextInt(3) == 0;
+      int said = one.second(s, isBreak).at;
+      if (random.nextInt(40) == 0) said = random.nextInt(n + 3);
+      x.set(0, i, said);
+      if (wrong >= 0) continue;
+      if (s.at < n && said == s.at + 1) s = one.second(s, false);
+      else if (s.at < n && said == one.hear(s).at) s = one.hear(s);
+      else wrong = i;
+    }
+    dues.due(one + " judge", x.judge(0, 0, many), wrong);
+    dues.due(one + " breaks", x.breaks(0, 0, many), wrong >= 0 ? -6 : s.heard - one.stand.heard);
   }
 
   private static final int[] SOME_ODDS = {0, 1, 100, 333, 500, 900, 999, 1000};

@@ -83,6 +83,8 @@ public final class RoomTextTest {
     fault("tox", 2);
     fault("to  5", 3);
     fault("to x", 3);
+    fault("to 5t", 4);
+    fault("to 5to 6", 4);
     fault("to 5 ", 4);
     fault("to 5 ;to 6", 4);
     fault("to 5; to 6", 5);
@@ -96,12 +98,31 @@ public final class RoomTextTest {
     fault("oddx", 3);
     fault("apartx", 5);
     fault("asx", 2);
+    longTexts();
     WhatDidYouSay x = new WhatDidYouSay();
     fault(x, "to 5;apart 6;odds 7;cost 8;counter 0 0;tally 9;x", 47);
     for (int i = 0; i < 6; i++) dues.due("nothing changed", x.status(i), new int[] {0, 0, 20, 5, 100, 1}[i]);
     dues.due("nothing changed", x.tallies(3), 0);
     dues.due("a good one", Dues.room(x, "to 9"), 1);
     dues.due("no FAULT", x.fault(), -1);
+  }
+
+  /** As many elements as there may be; behind such a one a short one goes by its own alone. */
+  private static void longTexts() {
+    String full = "cost 0;" + "to 11;".repeat(25) + "to ";
+    WhatDidYouSay x = new WhatDidYouSay();
+    fault(x, full, 160);
+    WhatDidYouSay y = new WhatDidYouSay();
+    dues.due("160 elements", Dues.room(y, full.substring(0, 157) + ";to"), -6);
+    dues.due("its FAULT", y.fault(), 157);
+    WhatDidYouSay z = new WhatDidYouSay();
+    dues.due("160 elements", Dues.room(z, "odds 100;" + "to 1;".repeat(30) + "t"), -6);
+    dues.due("its FAULT", z.fault(), 160);
+    WhatDidYouSay w = new WhatDidYouSay();
+    dues.due("a good one of 160", Dues.room(w, "odds 10;" + "to 12;".repeat(24) + "cost 033"), 26);
+    dues.due("COST", w.status(5), 33);
+    fault(w, "odds", 4);
+    fault(w, "odds 1;to", 9);
   }
 
   private static void faultsOfNumbers() {

@@ -48,6 +48,14 @@ public final class ShelvesTest {
     x.show(1, 0);
     dues.due("row where a COUNTER was", x.row(1, 2, 3), 1);
     dues.due("holds it", x.holds(1), 102);
+    dues.due("it is a ROW", x.set(1, 2, 8), 1);
+    x.show(1, 0);
+    dues.due("a COUNTER where a ROW was has no element", x.element(1, 2), 0);
+    x.row(1, 2, 3);
+    dues.due("a new ROW", x.element(1, 2), 0);
+    x.set(1, 2, 8);
+    x.show(1, -1);
+    dues.due("nor has NOTHING", x.element(1, 2), 0);
   }
 
   private static void elements() {

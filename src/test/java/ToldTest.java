@@ -36,6 +36,7 @@ public final class ToldTest {
     evening(3, 1, 2, 3, 4, 5, 3);
     evening(4, 1, 2, 4, 0, 1);
     evening(4, 0, 1, 0, 1);
+    evening(4, 2, 4, 4, 5, 5, 0, 1, 1);
     evening(5, 1, 2, 5, 6, 6, 7, 5);
     evening(6, 1, 4, 4, 2, 3, 3, 1);
     evening(0, 0, 0, 5, 6, 7, 8, 9, 10, 11, 12);
@@ -53,6 +54,7 @@ public final class ToldTest {
     evening(4, 1, -2, 4, 4);
     evening(5, 1, -4, 5, 6, 7, 7);
     evening(6, 1, -2, 4, 0);
+    evening(6, 2, -4, 4, 4, 5, 5);
     evening(0, 0, -9, 5, 6, 7, 8, 9, 10, 11, 12, 13);
     evening(2, 0, -9, 5, 6, 7, 8, 9, 10, 11, 12, 12);
     evening(0, 0, -9, 5, 6, 7, 8, 9, 10, 11, 12, 0);
