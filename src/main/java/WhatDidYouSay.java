@@ -46,8 +46,7 @@ public final class WhatDidYouSay {
   private final Room now = new Room();
   private final Room kept = new Room();
   private boolean hasImage;
-  private final Room draft = new Room();
-  private final RoomReader reader = new RoomReader(draft);
+  private final RoomReader reader = new RoomReader();
   private int faultPlace = NONE;
   private final Shelf[] shelves = new Shelf[MOST_SHELVES];
   private final int[] refused = new int[8];
@@ -156,11 +155,10 @@ public final class WhatDidYouSay {
   public int room(int s) {
     int no = rowRefusal(s);
     if (no != 0) return refuse(no);
-    draft.becomeLike(now);
-    int items = reader.read(shelves[s]);
+    int items = reader.read(shelves[s], now);
     faultPlace = reader.fault;
     if (faultPlace != NONE) return refuse(WRONG);
-    now.becomeLike(draft);
+    now.becomeLike(reader.over);
     return items;
   }
 
@@ -529,8 +527,10 @@ public final class WhatDidYouSay {
   }
 
   private static boolean isUnder(int kind, int wanted) {
-    for (int k = kind; isKind(k); k = ABOVE[k]) {
+    int k = kind;
+    for (int level = 0; level < ABOVE.length; level++) {
       if (k == wanted) return true;
+      k = above(k);
     }
     return false;
   }
@@ -819,7 +819,7 @@ public final class WhatDidYouSay {
     }
   }
 
-  /** Reads a ROOM over a draft; the draft is of no use when there is a FAULT. */
+  /** Reads a ROOM over a draft of what there is; the draft is of no use when there is a FAULT. */
   private static final class RoomReader {
     // The first four are what ask() sets.
     private static final int TALLY_WORD = 4;
@@ -829,17 +829,14 @@ public final class WhatDidYouSay {
     private static final int MOST_DIGITS = 4;
 
     int fault = NONE;
-    private final Room over;
+    final Room over = new Room();
     private final int[] letters = new int[MOST_ELEMENTS];
     private int length;
     private int place;
 
-    RoomReader(Room draft) {
-      over = draft;
-    }
-
     /** How many ITEMS; the FAULT is NONE, or where the text can't go on. */
-    int read(Shelf row) {
+    int read(Shelf row, Room asItIs) {
+      over.becomeLike(asItIs);
       length = Math.min(row.length, letters.length);
       for (int i = 0; i < length; i++) letters[i] = row.intAt(i);
       place = 0;
