@@ -168,13 +168,17 @@ public final class BoundsAheadTest {
     dues.due("none yet", y.chance(0, 2), 0);
     // AT 2: 444889, of these 148148 (cut) break.
     dues.due("AT 3", y.chance(0, 3), 296741);
+    // Parts of one AT are together, by however many breaks they came there.
+    int[] later = {395557, 494373, 593189, 662682, 722410};
+    for (int t = 4; t <= 8; t++) dues.due("AT 3 behind " + t, y.chance(0, t), later[t - 4]);
   }
 
   private static void byHeard() {
     dues.sentence(0, "each SECOND of all parts at AT (and HEARD modulo a and 1 for STUBBORN, DEAF) but N");
     // AT 1 of 2: who listens to the next break goes back to 0 by it.
     int[][] rows = {{9, 9, 500000, 500000}, {9, 19, 500000, 500000}, {9, 8, 500000, 750000}, {9, 10, 500000, 750000}, {0, 0, 500000, 500000},
-        {0, 1, 500000, 500000}, {1, 1, 500000, 500000}, {1, 0, 500000, 750000}, {1, 2, 500000, 750000}};
+        {0, 1, 500000, 500000}, {1, 1, 500000, 500000}, {1, 0, 500000, 750000}, {1, 2, 500000, 750000}, {2, 2, 500000, 500000}, {2, 11, 500000, 500000}, {2, 10, 500000, 750000},
+        {2, 9, 500000, 750000}};
     for (int[] row : rows) {
       WhatDidYouSay x = Dues.with(4, row[0], 0, 2);
       for (int i = 0; i < row[1]; i++) x.asks(0);
@@ -300,6 +304,17 @@ public final class BoundsAheadTest {
     dues.refused(y, "what 2", () -> y.when(0, 1, 2), -5);
     y.put(0, 20);
     dues.refused(y, "through", () -> y.when(0, 1, 1), -6);
+    // AT a MARK: nothing is lost by a break in SECOND 1, 1 by one in 2.
+    WhatDidYouSay mark = Dues.with(1, 0, 10, 12);
+    dues.due("AT a MARK", mark.when(0, 2, 0), 1);
+    dues.due("AT a MARK, WORST", mark.when(0, 2, 1), 2);
+    // STUBBORN of a 2: the third break that it hears counts.
+    WhatDidYouSay third = Dues.with(4, 2, 0, 20);
+    int[] worstByHeard = {1, 1, 9, 1};
+    for (int heard = 0; heard < 4; heard++) {
+      dues.due("HEARD " + heard, third.when(0, 9, 1), worstByHeard[heard]);
+      third.asks(0);
+    }
     // STUBBORN of a 1: the single break is the second that it hears.
     WhatDidYouSay z = Dues.with(4, 1, 0, 20);
     dues.due("the first break", z.when(0, 9, 1), 1);
@@ -364,6 +379,12 @@ public final class BoundsAheadTest {
     z.ask(0, 5);
     dues.due("the eighth AT 4", z.fits(0, 17), 8);
     dues.due("no more than 8", z.fits(0, 18), -1);
+    // STUBBORN of a 2 who has HEARD 1, AT 4 of 5: the second break that comes goes back.
+    WhatDidYouSay heard = Dues.with(4, 2, 0, 5);
+    heard.asks(0);
+    heard.put(0, 4);
+    int[] fewest = {-1, 0, 1, -1, -1, -1, -1, 2, 3};
+    for (int t = 0; t < fewest.length; t++) dues.due("HEARD 1 in " + t, heard.fits(0, t), fewest[t]);
   }
 
   private static void quickest() {

@@ -273,6 +273,8 @@ public final class BoundsRoomTest {
     fault("counter 7 10", 8);
     fault("counter 0", 9);
     fault("counter 0;", 9);
+    fault("counter 7;", 8);
+    fault("counter 7x", 8);
   }
 
   private static void toWord() {
@@ -423,6 +425,9 @@ public final class BoundsRoomTest {
     int[] places = {3, 3, 2, 2, 2, 3, 4, 4, 2, 7, 2, 0};
     for (int i = 0; i < mixed.length; i++) fault(mixed[i], places[i]);
     fault("to 5x;apart 0", 4);
+    fault("to 5t", 4);
+    fault("to 5to 6", 4);
+    fault("to 5counter", 4);
     fault("xo 5;apart 0", 0);
     WhatDidYouSay y = new WhatDidYouSay();
     Dues.row(y, 0, 2, 't', 'o', ' ', '5' + 65536);
@@ -466,5 +471,11 @@ public final class BoundsRoomTest {
     dues.due("there was none", x.fault(), -1);
     fault(x, "to 01000", 7);
     dues.due("the latest", x.fault(), 7);
+    good(x, "to 5;to 66", 2);
+    fault(x, "to", 2);
+    fault(x, "to ", 3);
+    fault(x, "to 5;", 5);
+    good(x, "to 5", 1);
+    dues.due("a shorter text goes by its own elements", x.status(2), 5);
   }
 }

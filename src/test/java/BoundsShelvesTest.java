@@ -27,8 +27,15 @@ public final class BoundsShelvesTest {
       dues.due("holds it", x.holds(s), 100);
       dues.due("a COUNTER", x.show(s, 0), 1);
       dues.due("holds it", x.holds(s), 0);
+      dues.due("has no element of the ROW that was there", x.element(s, 0), 0);
+      dues.due("a ROW again", x.row(s, 3, 1), 1);
+      dues.due("holds it", x.holds(s), 103);
+      dues.due("its element", x.set(s, 0, 5), 1);
+      dues.refused(x, "it is no COUNTER", () -> x.says(s, 0), -2);
       dues.due("NOTHING", x.show(s, -1), 0);
       dues.due("holds it", x.holds(s), -1);
+      dues.due("has no element of the ROW that was there", x.element(s, 0), 0);
+      dues.refused(x, "nor is one put in", () -> x.set(s, 0, 1), -3);
     }
     for (int s : new int[] {-1, 8}) {
       dues.refused(x, "row", () -> x.row(s, 0, 1), -1);

@@ -22,6 +22,7 @@ public final class BoundsTruthTest {
     restore();
     status();
     refusalsCounted();
+    lastCall();
     dues.end();
   }
 
@@ -436,5 +437,18 @@ public final class BoundsTruthTest {
     x.fits(0, 101);
     for (int i = 0; i < 6; i++) dues.due("with -11 to -16 " + (-1 - i), x.status(11 + i), i + 2);
     dues.due("-7 alone", x.status(17), 7);
+  }
+
+  /** The document: an object is used for at most 512 calls; the last of these is answered as any. */
+  private static void lastCall() {
+    dues.sentence(33, "A break of a COUNTER in truth: AT.");
+    WhatDidYouSay x = new WhatDidYouSay();
+    x.counter(2, 9);
+    for (int i = 0; i < 510; i++) x.asks(0);
+    dues.due("the 512th call", x.counterOf(0, 3), 5100);
+    WhatDidYouSay y = new WhatDidYouSay();
+    for (int i = 0; i < 510; i++) y.set(0, 0, 0);
+    y.counter(0, 0);
+    dues.due("the 512th call", y.status(13), 510);
   }
 }
