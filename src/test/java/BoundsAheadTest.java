@@ -193,6 +193,13 @@ public final class BoundsAheadTest {
     y.ask(2, 500);
     int[] want = {0, 500000, 500000, 500000, 562500};
     for (int t = 0; t < want.length; t++) dues.due("DEAF " + t, y.chance(0, t), want[t]);
+    // The greatest N: a part alone isn't broken (cut), so that some come there; reckoned apart from this class.
+    int[][] far = {{4, 1, 900, 400, 399}, {4, 9, 900, 400, 1875}, {6, 9, 500, 400, 1875}, {6, 1, 600, 300, 199}, {6, 0, 700, 400, 201}};
+    for (int[] row : far) {
+      WhatDidYouSay x = Dues.with(row[0], row[1], 0, 200);
+      x.ask(2, row[2]);
+      dues.due("KIND " + row[0] + " of " + row[1] + " with N 200", x.chance(0, row[3]), row[4]);
+    }
     // A COUNTER of the same a is not looked at so: its parts AT 0 are all together.
     WhatDidYouSay z = Dues.with(2, 9, 0, 1);
     z.ask(2, 1);
